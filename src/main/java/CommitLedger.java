@@ -171,7 +171,9 @@ public final class CommitLedger {
 
     public int commit() throws IllegalStateException, ArithmeticException {
         requireWriter();
-        commitAll();
+        if (isPrepared || prepareAll()) {
+            renamePrepared();
+        }
         return generation;
     }
 
@@ -187,7 +189,9 @@ public final class CommitLedger {
         for (int left = running; left > 0; left--) {
             endMerge(0, true);
         }
-        commitAll();
+        if (prepareAll()) {
+            renamePrepared();
+        }
         forgetWriter();
         dropUnneededFiles();
         return generation;
@@ -204,8 +208,9 @@ public final class CommitLedger {
 
     public void harm(int f, int n)
             throws IllegalArgumentException, IllegalStateException, NoSuchElementException {
-        requireRange(f, 0, Integer.MAX_VALUE);
-        requireRange(n, 0, Integer.MAX_VALUE);
+        if (f < 0 || n < 0) {
+            throw new IllegalArgumentException("a number is out of range");
+        }
         if (writerOpen || openReaders() > 0) {
             throw new IllegalStateException("a writer or a reader is open");
         }
@@ -422,9 +427,11 @@ public final class CommitLedger {
     }
 
     private void addEntry(int key, int value) {
-        writer.latestSerial++;
-        writer.live[entries.added] = true;
-        entries.append(key, value, writer.latestSerial);
+        if (entries.added < MOST_ENTRIES) {
+            writer.latestSerial++;
+            writer.live[entries.added] = true;
+            entries.append(key, value, writer.latestSerial);
+        }
     }
 
     private void flushBuffer() {
@@ -567,10 +574,7 @@ public final class CommitLedger {
         }
     }
 
-    private void commitAll() {
-        if (!isPrepared && !prepareAll()) {
-            return;
-        }
+    private void renamePrepared() {
         act();
         View before = theCommit;
         theCommit = prepared;
@@ -653,12 +657,10 @@ public final class CommitLedger {
         int added;
 
         void append(int key, int value, int serial) {
-            if (added < MOST_ENTRIES) {
-                keys[added] = key;
-                values[added] = value;
-                serials[added] = serial;
-                added++;
-            }
+            keys[added] = key;
+            values[added] = value;
+            serials[added] = serial;
+            added++;
         }
     }
 
@@ -787,15 +789,15 @@ public final class CommitLedger {
         }
 
         void put(int at, LedgerFile segment, LedgerFile list) {
-            if (at >= 0 && at < MOST_ENTRIES) {
-                segments[at] = segment;
-                lists[at] = list;
-            }
+            segments[at] = segment;
+            lists[at] = list;
         }
 
         void append(LedgerFile segment) {
-            put(size, segment, null);
-            size++;
+            if (size < MOST_ENTRIES) {
+                put(size, segment, null);
+                size++;
+            }
         }
 
         void replaceMerged(Merge merge) {

@@ -31,6 +31,8 @@ public final class PromisesTest {
         promise8FinishGivenUp();
         promise9Prepare();
         promise9PrepareWritesAndSyncsInOrder();
+        promise9PrepareSyncsASegmentBeforeItsList();
+        promise9NewSegmentsHaveNoList();
         promise9PrepareIsASnapshot();
         promise10Commit();
         promise10CommitNeedsNoOldFiles();
@@ -615,6 +617,63 @@ public final class PromisesTest {
             open(0, 1);
             count(1, 3);
         }
+    }
+
+    private static void promise9PrepareSyncsASegmentBeforeItsList() {
+        fresh("9 prepare syncs a segment before its list");
+        open(0, 0);
+        add(1, 0, 2, 2);
+        erase(1, 1);
+        x.power(3);
+        // Segment 0 and list 1 are written, segment 0 is synced.
+        refused(POWER, "prepare()", () -> x.prepare());
+        count(1, 1);
+        refused(MISSING, "harm(1, 0)", () -> x.harm(1, 0));
+        x.harm(0, 0);
+        fresh("9 prepare writes all lists before it syncs");
+        x.limits(2, 2);
+        open(0, 0);
+        add(1, 0, 4, 4);
+        erase(1, 1);
+        erase(3, 1);
+        x.power(4);
+        // Lists 2 and 3 are written; segment 0 and list 2 are synced.
+        refused(POWER, "prepare()", () -> x.prepare());
+        count(1, 2);
+        refused(MISSING, "harm(1, 0)", () -> x.harm(1, 0));
+        refused(MISSING, "harm(3, 0)", () -> x.harm(3, 0));
+        x.harm(0, 0);
+        x.harm(2, 0);
+    }
+
+    /** A segment is new without a list, also where one with a list stood before. */
+    private static void promise9NewSegmentsHaveNoList() {
+        fresh("9 new segments have no list, flushed");
+        x.limits(2, 2);
+        open(0, 0);
+        add(1, 0, 4, 4);
+        erase(3, 1);
+        commit(1);
+        count(1, 4);
+        erase(4, 1);
+        add(5, 0, 2, 6);
+        count(6, 2);
+        commit(2);
+        count(1, 3);
+        fresh("9 new segments have no list, merged");
+        x.limits(2, 2);
+        open(0, 0);
+        add(1, 0, 4, 4);
+        erase(1, 1);
+        commit(1);
+        count(1, 4);
+        merge(1, 1);
+        finish(1, true, 1);
+        commit(2);
+        count(1, 2);
+        erase(2, 1);
+        commit(3);
+        count(1, 3);
     }
 
     private static void promise9PrepareIsASnapshot() {
