@@ -2,11 +2,19 @@ import java.util.ArrayList;
 import java.util.List;
 import java.util.Random;
 
-/** Runs of 512 calls, the same each time, against the plain ledger; all that can be asked is asked. */
+/**
+ * Runs of 512 calls, the same each time, against the plain ledger; all that can be asked is asked behind
+ * each of them, as the program does not count its calls. Every eighth run is a wide one: its numbers stand
+ * at the bounds that the document names, and it comes to the 4096 entries.
+ */
 public final class RandomRunsTest {
 
     private static final int RUNS = 300;
     private static final int CALLS = 512;
+
+    private static final int[] WIDE_ADDS = {-1, 0, 1, 2, 40, 99, 100, 100, 100, 101};
+    private static final int[] WIDE_BUFFERS = {0, 8, 16, 50, 100, 100, 1000, 10000, 10001};
+    private static final int[] WIDE_FACTORS = {1, 2, 2, 3, 4, 63, 64, 65};
 
     private static final Check CHECK = new Check();
 
@@ -15,6 +23,7 @@ public final class RandomRunsTest {
     private final Random random;
     private final List<String> told = new ArrayList<>();
     private final int keys;
+    private final boolean wide;
     private int latestReader;
     private int latestMerge;
     private boolean differs;
@@ -22,6 +31,7 @@ public final class RandomRunsTest {
     private RandomRunsTest(int seed) {
         random = new Random(seed);
         keys = 1 + random.nextInt(12);
+        wide = seed % 8 == 0;
         program = new CommitLedger();
         plain = new PlainLedger();
     }
@@ -38,14 +48,18 @@ public final class RandomRunsTest {
 
     private void go() {
         for (int call = 0; call < CALLS && !differs; call++) {
-            step();
+            if (wide && random.nextInt(3) == 0) {
+                stepTowardsFull();
+            } else {
+                step();
+            }
             lookAtWriter();
             lookAtReaders();
         }
     }
 
     private void step() {
-        int key = random.nextInt(keys);
+        int key = anyKey();
         switch (random.nextInt(32)) {
             case 0: case 1: case 2: {
                 int mode = random.nextInt(20) - 1;
@@ -54,20 +68,16 @@ public final class RandomRunsTest {
                 break;
             }
             case 3: {
-                int buffer = random.nextInt(8);
-                int factor = 1 + random.nextInt(5);
+                int buffer = wide ? oneOf(WIDE_BUFFERS) : random.nextInt(8);
+                int factor = wide ? oneOf(WIDE_FACTORS) : 1 + random.nextInt(5);
                 same("limits(" + buffer + ", " + factor + ")",
                         () -> nothing(() -> program.limits(buffer, factor)),
                         () -> nothing(() -> plain.limits(buffer, factor)));
                 break;
             }
-            case 4: case 5: case 6: case 7: case 8: {
-                int n = random.nextInt(random.nextInt(4) == 0 ? 30 : 4);
-                int value = random.nextInt();
-                same("add(" + key + ", " + value + ", " + n + ")",
-                        () -> program.add(key, value, n), () -> plain.add(key, value, n));
+            case 4: case 5: case 6: case 7: case 8:
+                stepOfAdding(key);
                 break;
-            }
             case 9: case 10: case 11:
                 same("erase(" + key + ")", () -> program.erase(key), () -> plain.erase(key));
                 break;
@@ -103,6 +113,32 @@ public final class RandomRunsTest {
                 stepOfDirectoryAndReaders();
                 break;
         }
+    }
+
+    private void stepOfAdding(int key) {
+        int n = wide ? oneOf(WIDE_ADDS) : random.nextInt(random.nextInt(4) == 0 ? 30 : 4);
+        int value = random.nextInt();
+        same("add(" + key + ", " + value + ", " + n + ")",
+                () -> program.add(key, value, n), () -> plain.add(key, value, n));
+    }
+
+    /** Without these a run has its writer open too seldom to add as many as there may be. */
+    private void stepTowardsFull() {
+        if (plain.count(4) == 1) {
+            stepOfAdding(anyKey());
+        } else {
+            int mode = random.nextInt(2);
+            same("open(" + mode + ")", () -> program.open(mode), () -> plain.open(mode));
+        }
+    }
+
+    private int anyKey() {
+        int key = random.nextInt(keys);
+        return wide ? Integer.MAX_VALUE - 20 + key * 9 : key;
+    }
+
+    private int oneOf(int[] numbers) {
+        return numbers[random.nextInt(numbers.length)];
     }
 
     private void stepOfDirectoryAndReaders() {
@@ -146,7 +182,9 @@ public final class RandomRunsTest {
             same("count(" + what + ")", () -> program.count(what), () -> plain.count(what));
         }
         int segments = plain.count(6);
-        for (int s = -1; s <= segments; s++) {
+        // The plain ledger is slow where there are many.
+        int stride = 1 + segments / 16;
+        for (int s = -1; s <= segments; s += stride) {
             int i = s;
             for (int w = -1; w <= 5; w++) {
                 int what = w;
@@ -158,10 +196,10 @@ public final class RandomRunsTest {
 
     private void lookAtReaders() {
         int r = latestReader - random.nextInt(5) + random.nextInt(2);
-        int key = random.nextInt(keys + 4) - 1;
+        int key = anyKey() + random.nextInt(5) - 1;
         same("value(" + r + ", " + key + ")", () -> program.value(r, key), () -> plain.value(r, key));
         same("many(" + r + ", " + key + ")", () -> program.many(r, key), () -> plain.many(r, key));
-        int i = random.nextInt(30) - 1;
+        int i = random.nextInt(wide ? 5000 : 30) - 1;
         same("serial(" + r + ", " + i + ")", () -> program.serial(r, i), () -> plain.serial(r, i));
         for (int w = -1; w <= 3; w++) {
             int what = w;
