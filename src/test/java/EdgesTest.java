@@ -416,6 +416,20 @@ public final class EdgesTest {
                 rollback()
                 erase(1) = state
                 """);
+        the.sentence("The WRITER must be open. Answers how many.");
+        the.run("""
+                erase(1) = state
+                open(0) = 0
+                erase(1) = 0
+                40 * add(0, 0, 100)
+                erase(0) = 40
+                add(0, 0, 96) = 4096
+                erase(0) = 1
+                erase(95) = 41
+                erase(96) = 40
+                crash()
+                erase(1) = state
+                """);
     }
 
     private static void promise6() {
@@ -1266,6 +1280,21 @@ public final class EdgesTest {
                 reader(1) = 4
                 value(4, 0) = 2147483647
                 value(3, 0) = missing
+                """);
+        the.run("""
+                # The first and the last of all there ever are.
+                open(0) = 0
+                add(MIN, 1, 1) = 1
+                40 * add(0, 2, 100)
+                add(MIN, 3, 94) = 4095
+                add(MAX, 4, 1) = 4096
+                reader(1) = 1
+                value(1, MAX) = 4
+                many(1, MAX) = 1
+                value(1, MIN) = 3
+                many(1, MIN) = 2
+                value(1, -1) = missing
+                many(1, -1) = 0
                 """);
     }
 

@@ -10,6 +10,8 @@ import java.util.Random;
 public final class RoomTest {
 
     private static final long MOST_BYTES = 4_000_000;
+    /** Below what one round's files would take if they were made anew: some two thousand objects. */
+    private static final long MOST_BYTES_AGAIN = 50_000;
 
     private static final Check CHECK = new Check();
 
@@ -19,20 +21,26 @@ public final class RoomTest {
         stays("readers of 4096 segments", RoomTest::openManyReaders);
         stays("lists of many segments", RoomTest::writeManyLists);
         stays("merges of 4096 entries", RoomTest::mergeAgainAndAgain);
+        CHECK.part("all memory is the ledger's own rows, used again");
+        usesItsRowsAgain();
         CHECK.part("after the 512th call");
         outlivesItsCalls();
         CHECK.end();
     }
 
     private static void stays(String what, Runnable run) {
-        ThreadMXBean threads = (ThreadMXBean) ManagementFactory.getThreadMXBean();
-        long thread = Thread.currentThread().getId();
         run.run();
-        long before = threads.getThreadAllocatedBytes(thread);
-        run.run();
-        long made = threads.getThreadAllocatedBytes(thread) - before;
+        long made = bytesMadeBy(run);
         CHECK.holds(made <= MOST_BYTES, what + " made " + made + " bytes");
         System.out.println(what + ": " + made + " bytes");
+    }
+
+    private static long bytesMadeBy(Runnable run) {
+        ThreadMXBean threads = (ThreadMXBean) ManagementFactory.getThreadMXBean();
+        long thread = Thread.currentThread().getId();
+        long before = threads.getThreadAllocatedBytes(thread);
+        run.run();
+        return threads.getThreadAllocatedBytes(thread) - before;
     }
 
     private static void makeOne() {
@@ -61,20 +69,33 @@ public final class RoomTest {
         }
     }
 
-    /** Each round writes some two thousand lists, which are lost with the writer. */
     private static void writeManyLists() {
         CommitLedger x = filled(2);
         x.commit();
         for (int round = 0; round < 7; round++) {
-            for (int key = 0; key < 100; key += 2) {
-                x.erase(key);
-            }
-            CHECK.answers(2, "prepare()", x::prepare);
-            CHECK.answers(2048 + 2048 + 2, "count(1)", () -> x.count(1));
-            x.rollback();
-            CHECK.answers(2049, "count(1)", () -> x.count(1));
-            CHECK.answers(2048, "open(0)", () -> x.open(0));
+            writeListsAndLoseThem(x);
         }
+    }
+
+    /** Some two thousand lists, which are lost with the writer. */
+    private static void writeListsAndLoseThem(CommitLedger x) {
+        for (int key = 0; key < 100; key += 2) {
+            x.erase(key);
+        }
+        CHECK.answers(2, "prepare()", x::prepare);
+        CHECK.answers(2048 + 2048 + 2, "count(1)", () -> x.count(1));
+        x.rollback();
+        CHECK.answers(2049, "count(1)", () -> x.count(1));
+        CHECK.answers(2048, "open(0)", () -> x.open(0));
+    }
+
+    private static void usesItsRowsAgain() {
+        CommitLedger x = filled(2);
+        x.commit();
+        writeListsAndLoseThem(x);
+        long again = bytesMadeBy(() -> writeListsAndLoseThem(x));
+        CHECK.holds(again <= MOST_BYTES_AGAIN, "a second round made " + again + " bytes");
+        System.out.println("files used again: " + again + " bytes");
     }
 
     private static void mergeAgainAndAgain() {

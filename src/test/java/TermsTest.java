@@ -817,6 +817,17 @@ public final class TermsTest {
                 prepare() = 0
                 """);
         the.run("""
+                # As many segments, the same entries live, the same serial: but another segment.
+                limits(2, 2)
+                open(0) = 0
+                add(1, 0, 2) = 2
+                erase(1) = 1
+                commit() = 1
+                merge(1) = 1
+                finish(1, true) = 1
+                prepare() = 2
+                """);
+        the.run("""
                 # A segment of the commit without live entries is gone by open: not the same.
                 limits(1, 2)
                 open(0) = 0
@@ -867,6 +878,17 @@ public final class TermsTest {
                 commit() = 3
                 # A segment and its sync, the commit's file, its sync, the rename.
                 count(0) = 17
+                """);
+        the.run("""
+                # What is gone is not synced: one segment of two, the commit's file.
+                limits(2, 2)
+                open(0) = 0
+                add(1, 0, 4) = 4
+                erase(3) = 1
+                erase(4) = 1
+                count(0) = 2
+                prepare() = 1
+                count(0) = 5
                 """);
         for (int n = 0; n <= 8; n++) {
             // Files: 0 and 1 segments, 2 and 3 their lists, 4 the commit's. The actions in order:
@@ -1244,6 +1266,35 @@ public final class TermsTest {
                 commit() = 2
                 count(10) = 0
                 """);
+        the.run("""
+                # As many segments as there can be, in writer, commit and reader.
+                limits(1, 64)
+                open(0) = 0
+                40 * add(0, 0, 100)
+                add(0, 5, 96) = 4096
+                count(6) = 4096
+                segment(4095, 4) = 4096
+                segment(4096, 4) = missing
+                commit() = 1
+                count(0) = 8195
+                count(1) = 4097
+                reader(0) = 1
+                seen(1, 2) = 4096
+                value(1, 0) = 5
+                value(1, 96) = 0
+                value(1, 100) = missing
+                many(1, 95) = 41
+                many(1, 96) = 40
+                close() = 1
+                open(0) = 4096
+                merge(1) = 1
+                finish(1, true) = 1
+                close() = 2
+                count(1) = 4098
+                seen(1, 2) = 4096
+                release(1)
+                count(1) = 2
+                """);
         the.sentence("(those of a call in which POWER was lost then, too)");
         the.run("""
                 # Entry 16 of the call fills the buffer, its write is lost: 80 are left.
@@ -1359,6 +1410,25 @@ public final class TermsTest {
                 finish(1, true) = state
                 harm(0, 0) = missing
                 """);
+        the.sentence("\"Missing\" is NoSuchElementException, FULL IndexOutOfBoundsException, CORRUPT"
+                + " UnsupportedOperationException, POWER lost ArithmeticException.");
+        the.run("""
+                # These very classes, not others below them.
+                limits(0, 0) = bad
+                flush() = state
+                reader(0) = missing
+                open(0) = 0
+                4 * reader(1)
+                reader(1) = full
+                add(1, 0, 1) = 1
+                power(0)
+                commit() = power
+                open(0) = 0
+                close() = 1
+                harm(0, 0)
+                open(0) = corrupt
+                """);
+        the.sentence("then the rest in the order told.");
         the.run("""
                 # add: bad, not open, full, power.
                 limits(10000, 4)
