@@ -10,6 +10,7 @@ import java.util.Arrays;
 import java.util.List;
 import java.util.Set;
 import java.util.TreeSet;
+import java.util.regex.Matcher;
 import java.util.regex.Pattern;
 
 /** The document's face and no other, and the rules of LANGUAGE.md that can be looked up. */
@@ -50,10 +51,14 @@ public final class FaceTest {
         "\\btoString\\b", "\\bString\\b.*\\+", "while \\(true\\)", "for \\(;;\\)",
     };
 
+    private static final Pattern FACE_ROW =
+            Pattern.compile(" {4}public (\\w+ \\w+)\\((.*)\\)( throws .*)?;");
+    private static final Path DOCUMENT = Path.of("../shared/DOC.md");
     private static final Check CHECK = new Check();
 
     public static void main(String[] args) throws IOException {
         lookAtFace();
+        lookAtFaceInDocument();
         lookAtMembers();
         lookAtText();
         CHECK.end();
@@ -76,6 +81,26 @@ public final class FaceTest {
         }
         Set<String> due = new TreeSet<>(Arrays.asList(FACE));
         CHECK.holds(got.equals(due), "methods are " + got + ", due are " + due);
+    }
+
+    /** The face above was copied by hand: it has to be the document's, row by row. */
+    private static void lookAtFaceInDocument() throws IOException {
+        CHECK.part("face in the document");
+        if (!Files.exists(DOCUMENT)) {
+            return;
+        }
+        Set<String> due = new TreeSet<>();
+        for (String line : Files.readAllLines(DOCUMENT)) {
+            Matcher row = FACE_ROW.matcher(line);
+            if (row.matches()) {
+                String takes = row.group(2).replaceAll(" \\w+(?=,|$)", "");
+                String thrown = row.group(3) == null ? "" : row.group(3);
+                String names = thrown.replace("throws ", "").replace("java.util.", "").replace(",", "");
+                due.add(row.group(1) + "(" + takes + ")" + names);
+            }
+        }
+        Set<String> got = new TreeSet<>(Arrays.asList(FACE));
+        CHECK.holds(got.equals(due), "methods are " + got + ", the document's are " + due);
     }
 
     private static String signature(Method method) {
